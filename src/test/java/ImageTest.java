@@ -91,8 +91,38 @@ public final class ImageTest {
         x.heir(-1);
         x.offer(-1);
         x.priced(-1, 0);
+        change(x);
         Due.due("back()", x.back(), 3);
         same(x);
+        lists(x);
+    }
+
+    /** Lists of two, written over ahead of the way back. */
+    private static void lists(IronedOut x) {
+        x.want(1, 0);
+        x.board(7);
+        x.seam(20, 20, 6);
+        x.heir(7);
+        x.offer(7);
+        x.priced(1, 6);
+        x.image();
+        for (int i = 0; i < 2; i++) {
+            x.want(-1, 0);
+            x.board(-1);
+            x.seam(-1, 0, 0);
+            x.heir(-1);
+            x.offer(-1);
+            x.priced(-1, 0);
+            change(x);
+            change(x);
+            x.back();
+            Due.due("cut", x.cut(false), -1000);
+            Due.due("hands", x.hands(2, -1), 7);
+            Due.due("sets", x.sets(0, 0) * 10 + x.sets(1, 0), 0);
+            Due.due("laughs", x.laughs(12, true, 1), 7);
+            Due.due("takings", x.price(true), 10);
+            Due.due("whose", x.whose(), 1);
+        }
     }
 
     private static void backTwice() {
@@ -159,6 +189,11 @@ public final class ImageTest {
         Due.due("DEPTH", x.ofCrease(0, 2), 5);
         Due.due("undo", x.undo(), 28);
         Due.due("HOUR", x.is(0), 62);
+        x.back();
+        for (int i = 29; i >= 0; i--) {
+            Due.due("undo", x.undo(), i);
+            Due.due("HOUR", x.is(0), i < 29 ? 34 + i : 63);
+        }
         x.back();
         x.hour(2);
         for (int i = 0; i < 30; i++) {

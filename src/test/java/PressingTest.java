@@ -384,7 +384,25 @@ public final class PressingTest {
         Due.due("X, a draw behind", x.is(2), next(next(169)));
         x.seasons(1, 1);
         Due.due("can't be PRESSED: no draw", x.is(2), next(169));
+        backNoMore();
         damped();
+    }
+
+    /** 177, SEED 5: 3, of twelve CREASES it is BACK of 9; of one CREASE the one. */
+    private static void backNoMore() {
+        IronedOut x = new IronedOut();
+        x.person(0, 0);
+        x.crease(0, 5, 5, 1);
+        Due.due("one that is there", x.seasons(5, 1), 0);
+        Due.due("nothing is written", x.book(-1, 0), 0);
+        // 169, SEED 1: 1, PRESSED.
+        x.seasons(1, 1);
+        Due.due("the one CREASE is PRESSED", x.ofCrease(0, 2), 3);
+        Due.due("X", x.is(2), next(next(169)));
+        x.press(0);
+        x.press(0);
+        x.seasons(5, 1);
+        Due.due("DEPTH as told", x.ofCrease(0, 2), 5);
     }
 
     /** SEED by SEED until DAMP by 1 is the second season, behind an HOUR. */

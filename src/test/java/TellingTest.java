@@ -10,6 +10,8 @@ public final class TellingTest {
         ofPersons();
         ofCreases();
         eldestBlankShared();
+        sharedOfOne();
+        twelve();
         Due.finish();
     }
 
@@ -151,6 +153,51 @@ public final class TellingTest {
         Due.due("price 9", x.of(0, 1), 91);
     }
 
+    /** All there can be at once: nothing is looked at beyond the last. */
+    private static void twelve() {
+        IronedOut x = new IronedOut();
+        for (int i = 0; i < 5; i++) {
+            x.person(0, 9999);
+        }
+        for (int i = 0; i < 12; i++) {
+            x.crease(0, i * 9, 9, 1);
+            x.tie(i, i - 1);
+        }
+        Due.due("hanging", x.hanging(0), 4095);
+        Due.due("hanging", x.hanging(11), 2048);
+        Due.due("span", x.of(0, 5), 8);
+        Due.due("WORTH", x.of(0, 4), 12);
+        Due.due("flat", x.flat(0, 12, 100), 4095);
+        Due.due("flat", x.flat(0, 1, 10), 1365);
+        Due.due("sets", x.sets(0, 0), 4096);
+        Due.due("next", x.next(0), 0);
+        Due.due("cut", x.cut(false), 0);
+        x.want(0, 1);
+        Due.due("cut", x.cut(false), 4095);
+        Due.due("worth", x.cut(true), 12);
+        Due.due("eldest", x.eldest(0), 0);
+        Due.due("shared", x.shared(0, 4), 0);
+        Due.due("blank", x.blank(), 30);
+        x.by(Due.text(x, "presses 9;scorches 0;"));
+        Due.due("all go", x.press(0), 0);
+        Due.due("none there", x.of(0, 3), 0);
+        Due.due("all come back", x.damp(9), 9);
+        Due.due("all come back", x.damp(9), 3);
+        Due.due("hours", x.hour(10), 10);
+        Due.due("DEPTH", x.ofCrease(11, 2), 2);
+        Due.due("foretold", x.foretold(60, 11), 8);
+        Due.due("undo", x.undo(), 12);
+        Due.due("seasons", x.seasons(0, 1), 10);
+        Due.due("book", x.book(-1, 0), 24);
+        Due.due("the last in the book", x.book(23, 1), 11);
+    }
+
+    private static void sharedOfOne() {
+        IronedOut x = four();
+        x.crease(1, 11, 1, 0);
+        Due.due("shared", x.shared(0, 1), 2);
+    }
+
     private static void ofPersons() {
         IronedOut x = four();
         x.heat(9);
@@ -214,10 +261,12 @@ public final class TellingTest {
         Due.due("of like ones the lowest", x.eldest(0), 0);
         Due.due("eldest(-1)", x.eldest(-1), -1);
         Due.due("eldest(2)", x.eldest(2), -1);
+        Due.due("eldest of the other", x.eldest(1), 1);
         x.person(2, 1);
         Due.due("eldest of none", x.eldest(2), -1);
         Due.due("blank", x.blank(), 4);
         x.crease(2, 99, 1, 0);
+        Due.due("eldest of the last YEAR", x.eldest(2), 6);
         Due.due("blank", x.blank(), 0);
         Due.due("shared nothing", x.shared(0, 1), 0);
         x.crease(2, 19, 1, 0);

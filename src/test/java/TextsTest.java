@@ -18,6 +18,7 @@ public final class TextsTest {
         names();
         bounds();
         played();
+        playedNumbers();
         playedThatCannot();
         Due.finish();
     }
@@ -93,6 +94,8 @@ public final class TextsTest {
         Due.sound("damp\n1\n;\n");
         Due.sound(DAMPS_24);
         Due.sound("hour 007;");
+        Due.sound("tie 0 to 11;");
+        Due.sound("price " + "1+".repeat(146) + "1;");
     }
 
     private static void faultsOfStanding() {
@@ -102,6 +105,15 @@ public final class TextsTest {
         Due.faulty(";", 1, 0);
         Due.faulty("hours 1;", 1, 0);
         Due.faulty("Hour 1;", 1, 0);
+        Due.faulty("hourA 1;", 1, 0);
+        Due.faulty("hourz 1;", 1, 0);
+        Due.faulty("hourZ 1;", 1, 0);
+        Due.faulty("hou 1;", 1, 0);
+        Due.faulty("hour`1;", 1, 4);
+        Due.faulty("hour{1;", 1, 4);
+        Due.faulty("hour[1;", 1, 4);
+        Due.faulty("hour/1;", 1, 4);
+        Due.faulty("hour:1;", 1, 4);
         Due.faulty("hour\t1;", 1, 4);
         Due.faulty("hour 1\r;", 1, 6);
         Due.faulty("hour 1;\0", 1, 7);
@@ -295,6 +307,7 @@ public final class TextsTest {
         Due.worked(x, 0, "deep 0+1", 10);
         Due.worked(x, 0, "deep (0+1)", 4);
         Due.worked(x, 0, "deep deep 3", 9);
+        Due.worked(x, 0, "1+".repeat(146) + "1", 147);
         Due.worked(x, 0, "1+2+3+4+5+6+7+8+9+(1+(2+(3+(4+(5*(6+(7*8)))))))", 365);
     }
 
@@ -312,6 +325,8 @@ public final class TextsTest {
         Due.worked(x, 0, "if 1=2 and 1=3 or 1=1 then 1 else 0 end", 1);
         Due.worked(x, 0, "if 1=1 and 1=2 or 1=3 then 1 else 0 end", 0);
         Due.worked(x, 0, "if not 1=1 or 1=1 then 1 else 0 end", 1);
+        Due.worked(x, 0, "if 1<2 and 2=2 and 2<=2 and 3>2 and 3>=2 and 3#2 and not 1=2 then 1 else 0 end", 1);
+        Due.worked(x, 0, "if 2=2 and 1<2 then 1 else 0 end", 1);
         Due.worked(x, 0, "if not 1=2 and 1=2 then 1 else 0 end", 0);
         Due.worked(x, 0, "if not not 1=1 then 1 else 0 end", 1);
         Due.worked(x, 0, "if not not not 1=1 then 1 else 0 end", 0);
@@ -381,6 +396,34 @@ public final class TextsTest {
         Due.due("CREASES", x.is(3), 4);
         Due.due("HEAT", x.is(1), 3);
         Due.due("STEPS", x.about(3), 14);
+    }
+
+    /** Each NUMBER comes to where it belongs. */
+    private static void playedNumbers() {
+        IronedOut x = new IronedOut();
+        Due.text(x, "person 1 coins 22;person 0 coins 30;crease 1 year 44 depth 5;crease 0 year 66 depth 3;tie 0 to 1;"
+            + "heat 7;");
+        Due.due("played", x.played(0), -1);
+        Due.due("SKIN", x.of(0, 0) * 10 + x.of(1, 0), 10);
+        Due.due("COINS", x.of(0, 1) * 100 + x.of(1, 1), 2230);
+        Due.due("PERSONS", x.ofCrease(0, 0) * 10 + x.ofCrease(1, 0), 10);
+        Due.due("YEARS", x.ofCrease(0, 1) * 100 + x.ofCrease(1, 1), 4466);
+        Due.due("DEPTHS", x.ofCrease(0, 2) * 10 + x.ofCrease(1, 2), 53);
+        Due.due("the TIE", x.ofCrease(0, 5) * 10 + x.ofCrease(1, 5), 20);
+        Due.due("HEAT", x.is(1), 7);
+        Due.text(x, "presses 9;scorches 0;");
+        x.by(1);
+        Due.text(x, "press 1;damp 1;");
+        Due.due("played", x.played(2), -1);
+        Due.due("1 goes, then 0 may come back no more than 1", x.of(0, 3) | x.of(1, 3), 2);
+        Due.text(x, "damp 2;pattern 0;press 1;pattern 1;hour 2;");
+        x.press(1);
+        Due.due("1 is back, 0 is back, both go, 1 is back", x.played(3), -1);
+        Due.due("there", x.of(0, 3) | x.of(1, 3), 2);
+        Due.due("book", x.book(-1, 0), 9);
+        Due.due("HOUR", x.is(0), 2);
+        Due.due("0 is back by damp already", x.played(3), 1);
+        Due.due("HOUR", x.is(0), 2);
     }
 
     private static void playedThatCannot() {
