@@ -303,6 +303,10 @@ public final class AskingTest {
         Due.due("the nearest to half", x.next(0), 4);
         x.seam(35, 99, 4);
         Due.due("two of three", x.next(0), 1);
+        x.seam(-1, 0, 0);
+        // {1}, {2}, {3}, with 4 or without: 4 is in three of six, the others in two.
+        x.seam(0, 30, 1);
+        Due.due("half is nearer than fewer", x.next(0), 4);
         x.person(0, 0);
         Due.due("without CREASES", x.next(2), -1);
     }

@@ -78,6 +78,7 @@ public final class FaceTest {
             Due.due("fields of " + inside, fields <= 22, true);
             for (Method method : inside.getDeclaredMethods()) {
                 Due.due("parameters of " + method, method.getParameterCount() <= 7, true);
+                Due.due("namesake " + method, Arrays.toString(FACE).contains(" " + method.getName() + "("), false);
             }
         }
     }
