@@ -757,7 +757,6 @@ public final class IronedOut {
         }
 
         private void goWithHanging(int crease) {
-            goOne(crease);
             for (int i = 0; i < now.creases; i++) {
                 if ((hanging[crease] >> i & 1) == 1 && now.how[i] == THERE) {
                     goOne(i);

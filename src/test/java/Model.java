@@ -252,7 +252,6 @@ final class Model {
             c.depth = 0;
             write(crease, 1);
         } else if (c.depth == 0) {
-            gone(crease);
             for (int i : members(hanging(crease))) {
                 if (there(i)) {
                     gone(i);

@@ -93,9 +93,9 @@ public final class PressingTest {
         Due.due("DEPTH 0", x.ofCrease(2, 2), 0);
         Due.due("one price", x.of(0, 1) * 10 + x.of(1, 1), 506);
         Due.due("book", x.book(-1, 0), 3);
-        Due.due("it first", x.book(0, 1), 3);
-        Due.due("then by number", x.book(1, 1), 0);
-        Due.due("then by number", x.book(2, 1), 2);
+        Due.due("by number", x.book(0, 1), 0);
+        Due.due("by number", x.book(1, 1), 2);
+        Due.due("the one that is pressed in its place", x.book(2, 1), 3);
         x = chain();
         x.by(Due.text(x, "presses 9;"));
         x.tie(3, 1);
@@ -104,6 +104,31 @@ public final class PressingTest {
         x.press(1);
         Due.due("of 1 3 goes, and those that are gone don't go again", x.book(-1, 0), 4);
         Due.due("3", x.book(3, 1), 3);
+        goneInARound();
+    }
+
+    private static void goneInARound() {
+        IronedOut x = chain();
+        x.by(Due.text(x, "presses 9;"));
+        x.tie(3, 2);
+        x.press(2);
+        Due.due("all but 1", x.of(0, 3) | x.of(1, 3), 2);
+        Due.due("book", x.book(-1, 0), 3);
+        Due.due("ahead of the one that is pressed", x.book(0, 1), 0);
+        Due.due("the one that is pressed, once", x.book(1, 1), 2);
+        Due.due("behind it", x.book(2, 1), 3);
+        Due.due("once each", x.befell(2, 0), 1);
+        x = chain();
+        x.by(Due.text(x, "presses 9;"));
+        for (int i = 0; i < 29; i += 2) {
+            x.press(1);
+            x.pattern(1);
+        }
+        x.press(3);
+        Due.due("30 at most", x.book(-1, 0), 30);
+        Due.due("by number behind others", x.book(27, 1), 0);
+        Due.due("by number behind others", x.book(28, 1), 2);
+        Due.due("by number behind others", x.book(29, 1), 3);
     }
 
     private static void patterns() {
