@@ -57,6 +57,7 @@ public final class EdgesOfPressingTest {
         undoOfTheBook();
         undoOfRefusedCalls();
         toldSinceIsAsTold();
+        toldSinceUpToTheLast();
         tiesAndHeatStay();
         Due.finish();
     }
@@ -822,6 +823,31 @@ public final class EdgesOfPressingTest {
         x.undo();
         Due.due("ahead of the press of 5", x.of(2, 1) * 10 + x.ofCrease(5, 2), 779);
         Due.due("4 is PRESSED yet", x.ofCrease(4, 2), 8);
+    }
+
+    // Told since, up to all there can be.
+    private static void toldSinceUpToTheLast() {
+        IronedOut x = new IronedOut();
+        x.hour(1);
+        for (int i = 0; i < 5; i++) {
+            x.person(0, 90 + i);
+        }
+        for (int i = 0; i < 12; i++) {
+            x.crease(4, i, 2, 0);
+            x.tie(i, i - 1);
+        }
+        Due.due("all go", x.press(0), 0);
+        Due.due("the last one, too", x.press(11), -1);
+        Due.due("taken back", x.undo(), 1);
+        Due.due("ahead of all of them", x.undo(), 0);
+        Due.due("HOUR", x.is(0), 0);
+        Due.due("PERSONS", x.about(0), 5);
+        Due.due("CREASES", x.is(3), 12);
+        Due.due("COINS as told", x.of(4, 1), 94);
+        Due.due("all are there", x.of(4, 3), 4095);
+        for (int i = 0; i < 12; i++) {
+            Due.due("DEPTH as told", x.ofCrease(i, 2), 2);
+        }
     }
 
     // "TIES, HEAT stay".

@@ -46,6 +46,7 @@ public final class EdgesOfTellingTest {
         sharedOfThoseThere();
         aboutOthers();
         aboutEmptyAndFull();
+        allOfOnePerson();
         Due.finish();
     }
 
@@ -543,6 +544,41 @@ public final class EdgesOfTellingTest {
     private static void aboutOthers() {
         Twins.taken("about", EdgesOfTellingTest::some, IronedOut::about, -2, 0, 9);
         Twins.refused("about", EdgesOfTellingTest::some, IronedOut::about, -2, -1, 10);
+    }
+
+    // All there can be: twelve CREASES of the fifth PERSON. What is asked of them sees the last one, and none beyond it.
+    private static void allOfOnePerson() {
+        IronedOut x = persons(5);
+        for (int i = 0; i < 12; i++) {
+            x.crease(4, 99 - 9 * i, 9, 1);
+        }
+        Due.due("CREASES", x.of(4, 2), 4095);
+        Due.due("WORTH", x.of(4, 4), 12);
+        Due.due("span", x.of(4, 5), 8);
+        Due.due("eldest", x.eldest(4), 11);
+        Due.due("eldest of another", x.eldest(3), -1);
+        Due.due("blank", x.blank(), 15);
+        Due.due("shared", x.shared(4, 3), 0);
+        Due.due("sets", x.sets(4, 0), 4096);
+        Due.due("next", x.next(4), 0);
+        Due.due("next of another", x.next(3), -1);
+        Due.due("flat", x.flat(4, 1, 10), 1365);
+        Due.due("cut", x.cut(false), 0);
+        x.want(11, 1);
+        Due.due("cut", x.cut(false), 2048);
+        Due.due("pressed", x.press(11), 7);
+        Due.due("foretold", x.foretold(60, 11), 9);
+        Due.due("ten HOURS", x.hour(10), 10);
+        Due.due("DEPTH", x.ofCrease(11, 2), 8);
+        x.by(Due.text(x, "presses 9; scorches 0; price depth + deep 11;"));
+        Due.due("gone", x.press(11), 0);
+        Due.due("eldest", x.eldest(4), 10);
+        Due.due("taken back", x.undo(), 11);
+        Due.due("DEPTH", x.ofCrease(11, 2), 8);
+        Due.due("COINS", x.of(4, 1), 97);
+        x.seam(0, 0, 9);
+        Due.due("SURE", x.sets(4, 1), 2048);
+        Due.due("of another", x.sets(3, 0), 0);
     }
 
     // Promise 45: each of these, empty and full.

@@ -14,6 +14,7 @@ public final class EdgesOfTextsTest {
         endOfAll();
         textEmpty();
         textOf300();
+        lastTokenOf300();
         textWithAFault();
         textBehindManyFaults();
         fourTexts();
@@ -73,6 +74,7 @@ public final class EdgesOfTextsTest {
         playedNumberAmongAll();
         playedThatCannotBe();
         playedHours();
+        playedAsByHand();
         playedDamp();
         Due.finish();
     }
@@ -202,6 +204,20 @@ public final class EdgesOfTextsTest {
         Due.due("147 ones", Due.text(x, "price 1" + "+1".repeat(146) + ";"), 0);
         x.by(0);
         Due.due("147 ones", x.ofCrease(0, 8), 147);
+    }
+
+    // The last TOKEN ends with the 300th byte: a word that is one, or none, a NUMBER, a sign.
+    private static void lastTokenOf300() {
+        for (String word : new String[] {"p", "hea", "pattern", "heat", "heats"}) {
+            boolean starts = word.equals("pattern") || word.equals("heat");
+            faults(1, starts ? 300 : 300 - word.length(), "heat 1;" + " ".repeat(293 - word.length()) + word);
+        }
+        faults(1, 300, "price 1" + " ".repeat(288) + "+1234");
+        faults(2, 295, "price 1+" + " ".repeat(287) + "12345");
+        for (String sign : new String[] {"<", ">", "<=", ">=", "="}) {
+            faults(1, 300, "price if 1" + " ".repeat(290 - sign.length()) + sign);
+        }
+        faults(1, 299, "price 1" + " ".repeat(292) + "<");
     }
 
     // Promise 8: "(empty then) .. NONE: it has a FAULT": none of it is told, its number is the next one's.
@@ -1105,6 +1121,34 @@ public final class EdgesOfTextsTest {
         x.undo();
         Due.due("one of one", x.played(one), -1);
         Due.due("HEAT", x.is(1), 9);
+    }
+
+    // "as by hand": each NUMBER, the least and the greatest, comes to where it belongs.
+    private static void playedAsByHand() {
+        IronedOut played = new IronedOut();
+        IronedOut hand = new IronedOut();
+        for (int i = 0; i < 6; i++) {
+            played.person(i % 3, i);
+            hand.person(i % 3, i);
+        }
+        for (int i = 0; i < 12; i++) {
+            played.crease(i % 5, i, 2, i - 6);
+            hand.crease(i % 5, i, 2, i - 6);
+        }
+        String text = "heat 6;tie 0 to 11;tie 11 to 3;press 11;press 3;press 5;damp 1;damp 9;pattern 11;heat 0;press 0;";
+        Due.text(played, text);
+        Due.text(hand, text);
+        Due.due("played", played.played(0), 8);
+        hand.heat(6);
+        hand.tie(0, 11);
+        hand.tie(11, 3);
+        hand.press(11);
+        hand.press(3);
+        hand.press(5);
+        hand.damp(1);
+        hand.damp(9);
+        Due.due("that can't be", hand.pattern(11), false);
+        Twins.alike("played as by hand", played, hand);
     }
 
     // "DAMP always can".
